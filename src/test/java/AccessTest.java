@@ -96,6 +96,12 @@ public final class AccessTest {
         Check.same("19 EPC", answered(x, x.write(0, h, 1, 2, 0xbeef ^ c)), h);
         Check.same("19 SUM", x.word(0, 1, 0), Model.check16(Model.bits(2048, 16) + Model.bits(0xbeef, 16)));
         c = Check.cover(x, h);
+        Check.same("19 value 0", answered(x, x.write(0, h, 3, 3, 0)), h);
+        Check.same("19 value 0", x.word(0, 3, 3), c);
+        c = Check.cover(x, h);
+        Check.same("19 value 65535", answered(x, x.write(0, h, 3, 3, 65535)), h);
+        Check.same("19 value 65535", x.word(0, 3, 3), 65535 - c);
+        c = Check.cover(x, h);
         Check.same("19 KILL", answered(x, x.write(0, h, 0, 1, 4 ^ c)), h);
         Check.same("19 KILL", x.word(0, 0, 1), 4);
         Check.same("19 another HANDLE", x.write(0, h ^ 1, 3, 0, 1), 0);
@@ -183,6 +189,8 @@ public final class AccessTest {
         Check.same("21 no COVER then", x.tag(0, 6), -1);
         Check.same("21 lower is next", x.tag(0, 12), 1);
         Check.same("21 without COVER", answered(x, x.pass(0, h, 68, false)), NO_COVER);
+        String open = "11000110" + Model.bits(68, 16) + Model.bits(h, 16);
+        Check.text("21 sent", Check.sent(x), open + Model.bits(Model.check16(open), 16));
         Check.same("21 still", x.tag(0, 12), 1);
         x.pass(0, h ^ 1, 0, false);
         Check.same("21 the same for another HANDLE", x.tag(0, 12), 1);

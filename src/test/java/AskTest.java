@@ -103,6 +103,12 @@ public final class AskTest {
         Check.same("31 told B again", y.flag(0, 1), 1);
         y.rest(95);
         Check.same("31 and gone", y.flag(0, 1), 0);
+        TagRounds z = allSet();
+        z.time(1, 22);
+        z.nak(0);
+        Check.same("31 not yet", z.flag(0, 1), 1);
+        z.nak(0);
+        Check.same("31 gone by a command's ticks", z.flag(0, 1), 0);
         Check.index(x, "31 tag", () -> x.flag(1, 5));
         Check.argument(x, "31 flag", () -> x.flag(0, 5));
         Check.argument(x, "31 flag", () -> x.flag(0, -1));
@@ -154,7 +160,9 @@ public final class AskTest {
         Check.same("35 TAG", x.log(0, 1), 0);
         Check.same("35 SESSION", x.log(0, 2), 3);
         Check.same("35 NOW", x.log(0, 3), ahead);
-        Check.same("35 NOW", x.log(39, 3), ahead - 39 * 16);
+        for (int k = 0; k < 40; k++) {
+            Check.same("35 NOW of " + k, x.log(k, 3), ahead - k * 16);
+        }
         Check.same("35 just 40", x.log(40, 3), -1);
         Check.same("35 no such", x.log(-1, 3), -1);
         Check.same("35 no such", x.log(Integer.MAX_VALUE, 0), -1);
@@ -250,6 +258,9 @@ public final class AskTest {
         Check.same("38 colours", x.count(9), 2);
         x.slice(3, 0, 76);
         Check.same("38 DARK", x.count(11), 0);
+        x.move(0, 10);
+        x.slice(3, 0, 77);
+        Check.same("38 DARK, KILLED too", x.count(11), 5);
         Check.same("38 another", x.count(12), -1);
         Check.same("38 another", x.count(-1), -1);
         Check.same("38 another", x.count(Integer.MIN_VALUE), -1);

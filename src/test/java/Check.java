@@ -27,6 +27,7 @@ final class Check {
             call.run();
         } catch (RuntimeException e) {
             got = e.getClass().getSimpleName();
+            looksThrown(what, e);
         }
         if (!got.equals(due.getSimpleName())) {
             wrong++;
@@ -35,6 +36,14 @@ final class Check {
         if (!before.equals(seen(x))) {
             wrong++;
             System.out.println(what + " throws, but changes something");
+        }
+    }
+
+    // What the machine or its library throws has its first row elsewhere.
+    private static void looksThrown(String what, RuntimeException e) {
+        if (!e.getStackTrace()[0].getClassName().startsWith("TagRounds")) {
+            wrong++;
+            System.out.println(what + " is not thrown by the class itself");
         }
     }
 

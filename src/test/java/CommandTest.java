@@ -66,6 +66,11 @@ public final class CommandTest {
         Check.same("11 replied", handle, 2);
         Check.same("11 select", x.select(0, 0, 1), 3);
         Check.same("11 READY", x.tag(0, 2) + x.tag(1, 2) + x.tag(2, 2), 0);
+        TagRounds opened = Check.with(1);
+        Check.cover(opened, Check.open(opened, 0));
+        opened.select(0, 0, 1);
+        Check.same("11 no HANDLE", opened.tag(0, 5), -1);
+        Check.same("11 no COVER", opened.tag(0, 6), -1);
         Check.same("11 ticks", x.count(1), 11);
         x.move(2, 2);
         Check.same("11 who hears", x.select(0, 3, 0), 2);

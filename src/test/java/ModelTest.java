@@ -19,6 +19,10 @@ public final class ModelTest {
         try {
             return c.go();
         } catch (RuntimeException e) {
+            String by = e.getStackTrace()[0].getClassName();
+            if (!by.startsWith("TagRounds") && !by.startsWith("Model")) {
+                throw e;
+            }
             return kindOf(e);
         }
     }

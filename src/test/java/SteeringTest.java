@@ -45,6 +45,14 @@ public final class SteeringTest {
         y.steer(0, 1, 1);
         Check.same("24 alike for ever", y.round(0, 0, 1, 0, 3), 0);
         rounded("24 alike for ever", y, new int[] {3, 0, 0, 3, 0, 3, 20});
+        Check.same("24 QUERY anew of the SESSION", y.tag(0, 7), 1);
+        y.select(0, 1, 5);
+        y.select(0, 4, 0);
+        y.round(0, 2, 1, 1, 3);
+        Check.same("24 QUERY anew of PICKED ones, B", y.reader(0, 7), 3);
+        y.round(0, 1, 1, 1, 3);
+        Check.same("24 QUERY of others", y.reader(0, 5), 1);
+        promise24Anew();
         promise24Slots();
         promise24Time();
         int[][] none = {{-1, 0, 0, 1}, {3, 0, 0, 1}, {0, -1, 0, 1}, {0, 4, 0, 1}, {0, 0, 2, 1}, {0, 0, -1, 1}, {0, 0, 0, 0}, {0, 0, 0, 401}};
@@ -54,6 +62,31 @@ public final class SteeringTest {
             Check.index(x, "24 round, no reader", () -> x.round(-1, n[0], n[1], n[2], n[3]));
         }
         Check.state(x, "24 OFF", () -> x.round(1, 0, 0, 0, 1));
+    }
+
+    // Two TAGS with one SEED clash in a SLOT of two each time, and are asked anew as long as they do.
+    private static void promise24Anew() {
+        TagRounds x = Check.with(2);
+        x.seed(1, 1);
+        x.steer(0, 0, 100);
+        x.steer(0, 1, 1);
+        x.round(0, 0, 2, 0, 40);
+        Draws d = new Draws(1);
+        int now = 0;
+        for (int i = 0; i < 20; i++) {
+            boolean inTheFirst = d.next() % 2 == 0;
+            d.next();
+            now += inTheFirst ? 6 + 2 : 5 + 3;
+        }
+        rounded("24 anew", x, new int[] {40, 20, 0, 20, 0, 100, now + 2});
+        int[][] aims = {{49, 0}, {50, 1}, {149, 1}, {150, 2}, {1449, 14}, {1450, 15}};
+        for (int[] a : aims) {
+            TagRounds y = Check.with(1);
+            y.steer(0, 0, a[0]);
+            y.seed(0, seedWithSlot((1 << a[1]) - 1, 15));
+            y.round(0, 0, 2, 0, 1);
+            Check.same("24 q of AIM " + a[0], y.tag(0, 8) == a[1] || a[1] == 0 && y.tag(0, 2) == 0, true);
+        }
     }
 
     private static void promise24Slots() {
@@ -69,6 +102,7 @@ public final class SteeringTest {
         Check.same("24 none PICKED", x.round(0, 2, 2, 0, 9), 0);
         Check.same("24 READ ever", x.reader(0, 11), 2);
         Check.same("24 READ of the latest", x.reader(0, 8), 0);
+        Check.same("24 SINGLE of the latest", x.reader(0, 6), 0);
         TagRounds y = Check.with(1);
         y.move(0, 3);
         y.power(1, true);
@@ -154,6 +188,10 @@ public final class SteeringTest {
         Check.same("26 it would flip", y.foresee(0, 2, 0, 0, 1), 0);
         Check.same("26 it would flip", y.foresee(0, 2, 1, 0, 1), 1);
         Check.same("26 not of another SESSION", y.foresee(0, 3, 0, 0, 1), 1);
+        y.next(0, 2);
+        Check.open(y, 2);
+        Check.same("26 it would flip back", y.foresee(0, 2, 0, 0, 1), 1);
+        Check.same("26 it would flip back", y.foresee(0, 2, 1, 0, 1), 0);
         Check.index(x, "26 reader", () -> x.foresee(4, 4, 2, 16, 4));
         Check.element(x, "26 what", () -> x.foresee(0, 4, 2, 16, 4));
         Check.element(x, "26 what", () -> x.foresee(0, 0, 0, 0, -1));
@@ -173,6 +211,10 @@ public final class SteeringTest {
         x.seed(1, seedWithSlot(0b1101, 4));
         Check.same("27 unlike from the fourth bit on", x.wise(0, 0, 0), 4);
         Check.same("27 none of B", x.wise(0, 0, 1), 0);
+        x.seed(1, seedWithSlot(0b0101 | 1 << 14, 15));
+        x.seed(0, seedWithSlot(0b0101, 15));
+        Check.same("27 unlike in the last bit", x.wise(0, 0, 0), 15);
+        x.seed(0, seedWithSlot(0b0101, 4));
         x.seed(1, seedWithSlot(0b0101, 4));
         Check.same("27 none", x.wise(0, 0, 0), -1);
         Check.same("27 OFF", x.wise(2, 0, 0), 0);
@@ -220,6 +262,13 @@ public final class SteeringTest {
         x.round(0, 0, 0, 0, 7);
         Check.same("29 GUESS", x.reader(0, 9), 16);
         Check.same("29 in hundredths", x.reader(0, 10), 0);
+        TagRounds loud = Check.with(2);
+        loud.seed(1, 1);
+        loud.steer(0, 0, 0);
+        loud.steer(0, 1, 1);
+        loud.round(0, 0, 0, 0, 49);
+        Check.same("29 CLASHES", loud.reader(0, 7), 49);
+        Check.same("29 GUESS", loud.reader(0, 9), 117);
         Check.same("29 another", x.reader(1, 9), 0);
         Check.same("29 another", x.reader(1, 10), 0);
         x.move(1, 0);
