@@ -1075,10 +1075,13 @@ public final class TagRounds {
             length = 0;
         }
 
-        void open(int tag) {
+        void say(int tag, int word) {
             answers++;
             from = tag;
-            length = 0;
+            if (words.length > 0) {
+                words[0] = word;
+                length = 1;
+            }
         }
 
         void put(int word) {
@@ -1367,7 +1370,8 @@ public final class TagRounds {
 
         boolean isRight(boolean kill, int upper, int lower) {
             int at = kill ? 0 : 2;
-            return (upper != 0 || lower != 0) && get(BANK_CODES, at) == upper && get(BANK_CODES, at + 1) == lower;
+            boolean any = upper != 0 || lower != 0;
+            return any && at + 1 < codes.length && codes[at] == upper && codes[at + 1] == lower;
         }
     }
 
@@ -1483,16 +1487,15 @@ public final class TagRounds {
         }
 
         int draw() {
-            seed = seedBehind();
+            seed = 1103515245 * seed + 12345;
             return seed >>> 8 & HIGHEST_WORD;
         }
 
-        int seedBehind() {
-            return 1103515245 * seed + 12345;
-        }
-
         int foreseenSlot(int withQ) {
-            return seedBehind() >>> 8 & HIGHEST_WORD & (1 << withQ) - 1;
+            int before = seed;
+            int slotThen = draw() & (1 << withQ) - 1;
+            seed = before;
+            return slotThen;
         }
 
         boolean wouldDraw(int ofSession, int target) {
@@ -1577,11 +1580,6 @@ public final class TagRounds {
             cover = NONE;
         }
 
-        void say(int word, Answer a) {
-            a.open(number);
-            a.put(word);
-        }
-
         void drawSlot(int withQ, Answer a) {
             q = withQ;
             slot = draw() & (1 << withQ) - 1;
@@ -1592,7 +1590,7 @@ public final class TagRounds {
             if (slot == 0) {
                 state = REPLIES;
                 drawn = draw();
-                say(drawn, a);
+                a.say(number, drawn);
             } else {
                 waitOn();
             }
@@ -1646,8 +1644,8 @@ public final class TagRounds {
                 state = KNOWN;
             }
             if (named || isOpen() && handle == c.number) {
-                a.open(number);
-                for (int i = 1; i < memory.epc.length; i++) {
+                a.say(number, memory.get(BANK_EPC, 1));
+                for (int i = EPC_AT; i < memory.epc.length; i++) {
                     a.put(memory.epc[i]);
                 }
                 a.put(memory.get(BANK_EPC, 0));
@@ -1660,10 +1658,10 @@ public final class TagRounds {
             if (state == KNOWN && drawn == c.number) {
                 handle = draw();
                 state = memory.isAccessFree() ? SECURED : OPEN;
-                say(handle, a);
+                a.say(number, handle);
             } else if (isOpen() && handle == c.number) {
                 cover = draw();
-                say(cover, a);
+                a.say(number, cover);
             } else if (state == REPLIES || state == KNOWN) {
                 waitOn();
             }
@@ -1683,11 +1681,20 @@ public final class TagRounds {
             }
             int code = codeOf(c);
             if (code != 0) {
-                say(REFUSED + code, a);
+                a.say(number, REFUSED + code);
                 return;
             }
-            say(handle, a);
-            perform(c, a);
+            a.say(number, handle);
+            if (c.kind == READ) {
+                for (int i = 0; i < c.many; i++) {
+                    a.put(memory.get(c.bank, c.word + i));
+                }
+            } else if (c.kind == WRITE) {
+                memory.set(c.bank, c.word, c.value ^ cover);
+                cover = NONE;
+            } else {
+                memory.setMode(c.area, c.mode);
+            }
         }
 
         // Why it cannot, or 0.
@@ -1715,22 +1722,9 @@ public final class TagRounds {
             return 0;
         }
 
-        void perform(Command c, Answer a) {
-            if (c.kind == READ) {
-                for (int i = 0; i < c.many; i++) {
-                    a.put(memory.get(c.bank, c.word + i));
-                }
-            } else if (c.kind == WRITE) {
-                memory.set(c.bank, c.word, c.value ^ cover);
-                cover = NONE;
-            } else {
-                memory.setMode(c.area, c.mode);
-            }
-        }
-
         void obeyPass(Command c, Answer a) {
             if (cover == NONE) {
-                say(REFUSED + NO_COVER, a);
+                a.say(number, REFUSED + NO_COVER);
                 return;
             }
             int half = c.value ^ cover;
@@ -1739,13 +1733,13 @@ public final class TagRounds {
                 lowerIsNext = true;
                 halfForKill = c.kill;
                 upperHalf = half;
-                say(handle, a);
+                a.say(number, handle);
                 return;
             }
             lowerIsNext = false;
             if (memory.isRight(c.kill, upperHalf, half)) {
                 state = c.kill ? KILLED : SECURED;
-                say(handle, a);
+                a.say(number, handle);
             } else {
                 waitOn();
             }
