@@ -171,7 +171,7 @@ public final class TagRounds {
         needRange(flag, 0, PICKED);
         needRange(action, 0, 7);
         needCommand(r);
-        int matched = countMatching(reader);
+        int matched = Integer.bitCount(matchingBits() & hearingBits(reader) & ~killedBits());
         command.setSelect(flag, action);
         transmit(reader);
         return matched;
@@ -464,7 +464,7 @@ public final class TagRounds {
             case 9:
                 return plan();
             case 10:
-                return countMatching(NONE);
+                return matchingBits();
             case 11:
                 return darkBits();
             default:
@@ -624,18 +624,14 @@ public final class TagRounds {
         return bits;
     }
 
-    // With a READER only those count that do what it commands now; with NONE all.
-    private int countMatching(int reader) {
-        int busy = busyAt(clock.now);
-        int matching = 0;
+    private int matchingBits() {
+        int bits = 0;
         for (int i = 0; i < tags.size(); i++) {
-            Tag t = tags.get(i);
-            boolean asked = reader == NONE || t.state != KILLED && hears(t, reader, busy);
-            if (asked && pattern.matches(t.memory)) {
-                matching++;
+            if (pattern.matches(tags.get(i).memory)) {
+                bits |= 1 << i;
             }
         }
-        return matching;
+        return bits;
     }
 
     // ---- what would be ----

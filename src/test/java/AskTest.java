@@ -243,7 +243,7 @@ public final class AskTest {
         Check.same("38 ON", x.count(5), 10);
         x.add(8, 1, 0, 0);
         Check.same("38 with POWER", x.count(6), 4);
-        Check.same("38 MATCH", x.count(10), 3);
+        Check.same("38 MATCH, KILLED and without POWER too", x.count(10), 7);
         x.time(0, 77);
         x.time(1, 78);
         x.time(2, 79);
@@ -269,6 +269,31 @@ public final class AskTest {
         Check.same("38 NOW", x.rest(1), now + 1);
     }
 
+    // TAGS that MATCH are told one by one, not counted.
+    private static void promise38Match() {
+        TagRounds x = new TagRounds();
+        Check.same("38 MATCH, no TAGS", x.count(10), 0);
+        for (int i = 0; i < 16; i++) {
+            x.add(i % 2, 1, i << 16, 0);
+            Check.same("38 MATCH, LONG 0", x.count(10), (2 << i) - 1);
+        }
+        for (int i = 0; i < 16; i++) {
+            x.mask(1, 32, 16, i);
+            Check.same("38 MATCH, just one", x.count(10), 1 << i);
+        }
+        x.mask(1, 47, 1, 1);
+        Check.same("38 MATCH, the odd ones", x.count(10), 0xaaaa);
+        x.store(0, 1, 2, 1);
+        Check.same("38 MATCH, another word", x.count(10), 0xaaab);
+        x.power(0, true);
+        Check.same("11 how many, as a number", x.select(0, 0, 0), 8);
+        Check.same("38 MATCH, behind a SELECT", x.count(10), 0xaaab);
+        x.mask(1, 48, 1, 0);
+        Check.same("38 MATCH, beyond the BANK", x.count(10), 0);
+        x.mask(1, 48, 0, 0);
+        Check.same("38 MATCH, LONG 0 beyond the BANK", x.count(10), 65535);
+    }
+
     public static void main(String[] args) {
         promise30();
         promise31();
@@ -277,6 +302,7 @@ public final class AskTest {
         promise36();
         promise37();
         promise38();
+        promise38Match();
         Check.end("AskTest");
     }
 }

@@ -949,7 +949,11 @@ public final class Model {
                 return b;
             case 8: return everRead;
             case 9: return (int) Arrays.stream(plan()).distinct().count();
-            case 10: return (int) tags.stream().filter(this::matches).count();
+            case 10:
+                for (T t : tags) {
+                    b |= matches(t) ? 1 << t.id : 0;
+                }
+                return b;
             case 11:
                 for (T t : tags) {
                     b |= power(t) && tag(t.id, 13) == NONE ? 1 << t.id : 0;
