@@ -1,16 +1,59 @@
+import java.io.IOException;
+import java.nio.file.Files;
+import java.nio.file.Path;
+
 /** What the tests by hand share: an answer against the one that is due, and refusals that change nothing. */
 final class Check {
+    private static final Path DOC = Path.of("../shared/DOC.md");
     private static int wrong = 0;
     private static int looked = 0;
+    private static int sentences = 0;
+    private static int lookedAhead = 0;
+    private static String sentence = "";
+    private static String doc;
 
     private Check() {
+    }
+
+    /** What is looked at from here on is due by this sentence: it must stand in the document, word by word. */
+    static void sentence(String words) {
+        sentenceEnds();
+        sentence = "\"" + words + "\": ";
+        sentences++;
+        if (!document().isEmpty() && !document().contains(words)) {
+            fault("the document does not say so");
+        }
+    }
+
+    // A sentence without a look at it would be a test in name only.
+    private static void sentenceEnds() {
+        if (!sentence.isEmpty() && looked == lookedAhead) {
+            fault("nothing is looked at");
+        }
+        lookedAhead = looked;
+    }
+
+    // Empty where the document is not to be found: the tests themselves do not need it.
+    private static String document() {
+        if (doc == null) {
+            try {
+                doc = Files.isReadable(DOC) ? Files.readString(DOC) : "";
+            } catch (IOException e) {
+                doc = "";
+            }
+        }
+        return doc;
+    }
+
+    private static void fault(String text) {
+        wrong++;
+        System.out.println(sentence + text);
     }
 
     static void same(String what, long got, long due) {
         looked++;
         if (got != due) {
-            wrong++;
-            System.out.println(what + " answered " + got + ", due is " + due);
+            fault(what + " answered " + got + ", due is " + due);
         }
     }
 
@@ -30,20 +73,17 @@ final class Check {
             looksThrown(what, e);
         }
         if (!got.equals(due.getSimpleName())) {
-            wrong++;
-            System.out.println(what + " throws " + got + ", due is " + due.getSimpleName());
+            fault(what + " throws " + got + ", due is " + due.getSimpleName());
         }
         if (!before.equals(seen(x))) {
-            wrong++;
-            System.out.println(what + " throws, but changes something");
+            fault(what + " throws, but changes something");
         }
     }
 
     // What the machine or its library throws has its first row elsewhere.
     private static void looksThrown(String what, RuntimeException e) {
         if (!e.getStackTrace()[0].getClassName().startsWith("TagRounds")) {
-            wrong++;
-            System.out.println(what + " is not thrown by the class itself");
+            fault(what + " is not thrown by the class itself");
         }
     }
 
@@ -119,8 +159,7 @@ final class Check {
     static void text(String what, String got, String due) {
         looked++;
         if (!got.equals(due)) {
-            wrong++;
-            System.out.println(what + " answered " + got + ", due is " + due);
+            fault(what + " answered " + got + ", due is " + due);
         }
     }
 
@@ -148,8 +187,42 @@ final class Check {
         return x.heard(0);
     }
 
+    /** Lets ticks go until NOW is that. */
+    static void until(TagRounds x, int now) {
+        while (x.count(1) < now) {
+            x.rest(Math.min(9999, now - x.count(1)));
+        }
+    }
+
+    /** One TAG of READER 0 in this STATE, of SESSION 2, its passwords 1, 2 (KILL) and 3, 4 (ACCESS) but if it is SECURED. */
+    static TagRounds inState(int state) {
+        TagRounds x = with(1);
+        for (int i = 0; i < 4; i++) {
+            x.store(0, 0, i, state == 5 && i > 1 ? 0 : i + 1);
+        }
+        if (state == 1) {
+            x.seed(0, Draws.seedFor(2));
+            x.query(0, 0, 2, 0, 2);
+        } else if (state == 2) {
+            x.query(0, 0, 2, 0, 0);
+        } else if (state == 3) {
+            x.query(0, 0, 2, 0, 0);
+            x.ack(0, x.heard(0));
+        } else if (state > 3) {
+            int handle = open(x, 2);
+            if (state == 6) {
+                x.pass(0, handle, cover(x, handle) ^ 1, true);
+                x.pass(0, handle, cover(x, handle) ^ 2, true);
+            }
+        }
+        same("STATE of inState()", x.tag(0, 2), state);
+        return x;
+    }
+
     static void end(String name) {
-        System.out.println(name + ": " + looked + " looked at, " + wrong + " wrong");
+        sentenceEnds();
+        String said = sentences == 0 ? "" : sentences + " sentences, ";
+        System.out.println(name + ": " + said + looked + " looked at, " + wrong + " wrong");
         if (wrong != 0) {
             System.exit(1);
         }
